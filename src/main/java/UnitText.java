@@ -121,7 +121,7 @@ public final class UnitText {
         for (int i = 0; i < MOST_NAME_BYTES; i++) {
             long eight = i < 8 ? first : second;
             int b = (int) (eight >>> (56 - 8 * (i & 7))) & 255;
-            if (b != 0) {
+            if (b != 0 && length < MOST_NAME_BYTES) {
                 asked[length] = b;
                 length++;
             }
@@ -134,7 +134,7 @@ public final class UnitText {
     }
 
     public int letter(int i) {
-        return i >= 0 && i < teller.size ? teller.out[i] : NONE;
+        return teller.byteOfOut(i);
     }
 
     /** Rows of numbers, all of one width; a cell outside of the rows is neither told nor set. */
@@ -159,7 +159,8 @@ public final class UnitText {
             if (size >= most) {
                 return NONE;
             }
-            for (int i = size * width; i < (size + 1) * width; i++) {
+            int start = size * width;
+            for (int i = start; i >= 0 && i < start + width && i < cells.length; i++) {
                 cells[i] = 0;
             }
             size++;
@@ -167,16 +168,18 @@ public final class UnitText {
         }
 
         void setCell(int row, int column, int value) {
-            if (row >= 0 && row < size && column >= 0 && column < width) {
-                cells[row * width + column] = value;
+            int i = row * width + column;
+            if (row >= 0 && row < size && column >= 0 && column < width && i >= 0 && i < cells.length) {
+                cells[i] = value;
             }
         }
 
         int cell(int row, int column, int otherwise) {
-            if (row < 0 || row >= size || column < 0 || column >= width) {
+            int i = row * width + column;
+            if (row < 0 || row >= size || column < 0 || column >= width || i < 0 || i >= cells.length) {
                 return otherwise;
             }
-            return cells[row * width + column];
+            return cells[i];
         }
     }
 
@@ -241,7 +244,7 @@ public final class UnitText {
         }
 
         void addByte(int b) {
-            if (byteCount < MOST_BYTES) {
+            if (byteCount < bytes.length) {
                 bytes[byteCount] = b;
                 byteCount++;
             }
@@ -265,29 +268,29 @@ public final class UnitText {
             }
             for (int k = 0; k < names.size; k++) {
                 int start = names.cell(k, NAME_START, 0);
-                if (names.cell(k, NAME_BYTES, 0) == length && start + length <= byteCount) {
-                    int same = 0;
-                    while (same < length && bytes[start + same] == source[from + same]) {
-                        same++;
-                    }
-                    if (same == length) {
-                        return k;
-                    }
+                int end = start + names.cell(k, NAME_BYTES, 0);
+                boolean same = end - start == length && start >= 0 && end <= bytes.length;
+                for (int i = 0; i < length && same; i++) {
+                    same = bytes[start + i] == source[from + i];
+                }
+                if (same) {
+                    return k;
                 }
             }
             return NONE;
         }
 
         int byteOfName(int k, int i) {
-            int start = names.cell(k, NAME_START, 0);
-            int length = names.cell(k, NAME_BYTES, 0);
-            return i >= 0 && i < length && start + i < byteCount ? bytes[start + i] : NONE;
+            return byteBehind(names.cell(k, NAME_START, 0), names.cell(k, NAME_BYTES, 0), i);
         }
 
         int byteOfString(int j, int i) {
-            int start = operands.cell(j, STRING_START, 0);
-            int length = operands.cell(j, STRING_BYTES, 0);
-            return i >= 0 && i < length && start + i < byteCount ? bytes[start + i] : NONE;
+            return byteBehind(operands.cell(j, STRING_START, 0), operands.cell(j, STRING_BYTES, 0), i);
+        }
+
+        private int byteBehind(int start, int count, int i) {
+            boolean there = start >= 0 && i >= 0 && i < count && start + i < bytes.length;
+            return there ? bytes[start + i] : NONE;
         }
     }
 
@@ -487,7 +490,7 @@ public final class UnitText {
         }
 
         void addByte(int b) {
-            if (length < MOST_BYTES) {
+            if (length < text.length) {
                 text[length] = b;
                 length++;
             }
@@ -556,7 +559,7 @@ public final class UnitText {
 
         /** Stops at what can't be in a COMMENT, too: with such a byte no word can begin, either. */
         private int scanComment() {
-            while (next < limit && (text[next] >= 32 && text[next] <= 126 || text[next] == '\t')) {
+            while (next < limit && (byteAt(next) >= 32 && byteAt(next) <= 126 || byteAt(next) == '\t')) {
                 next++;
             }
             return BLANK;
@@ -564,7 +567,7 @@ public final class UnitText {
 
         private int scanName() {
             int place = next;
-            while (next < limit && isNameByte(text[next])) {
+            while (next < limit && isNameByte(byteAt(next))) {
                 next++;
             }
             value = next - place;
@@ -599,8 +602,8 @@ public final class UnitText {
             int place = next;
             long number = 0;
             next = from;
-            while (next < limit && digitOf(text[next]) < base) {
-                number = Math.min(number * base + digitOf(text[next]), NUMBERS_END);
+            while (next < limit && digitOf(byteAt(next)) < base) {
+                number = Math.min(number * base + digitOf(byteAt(next)), NUMBERS_END);
                 next++;
             }
             if (next == from || number == NUMBERS_END) {
@@ -682,7 +685,7 @@ public final class UnitText {
         }
 
         int byteAt(int place) {
-            return place >= 0 && place < limit ? text[place] : NONE;
+            return place >= 0 && place < limit && place < text.length ? text[place] : NONE;
         }
 
         /** What a byte within a CHARACTER or STRING stands for, NONE if it can't be there. */
@@ -1081,7 +1084,7 @@ public final class UnitText {
             int size = 0;
             for (int t = first; t < first + count; t++) {
                 int sort = book.items.cell(t, Book.SORT, Items.HERE);
-                if (sort == Items.NUMBER && size < MOST_ITEMS_OF_ONE) {
+                if (sort == Items.NUMBER && size < stack.length) {
                     stack[size] = book.items.cell(t, Book.VALUE, 0);
                     size++;
                 } else if (Items.isAhead(sort) && size >= 1) {
@@ -1169,10 +1172,14 @@ public final class UnitText {
         }
 
         private void putByte(int b) {
-            if (size < MOST_OUT) {
+            if (size < out.length) {
                 out[size] = b;
                 size++;
             }
+        }
+
+        int byteOfOut(int i) {
+            return i >= 0 && i < size && i < out.length ? out[i] : NONE;
         }
 
         private void putText(String text) {
@@ -1184,7 +1191,7 @@ public final class UnitText {
         private void putName(Book book, int k) {
             int start = book.names.cell(k, Book.NAME_START, 0);
             int end = start + book.names.cell(k, Book.NAME_BYTES, 0);
-            for (int i = start; i >= 0 && i < end && i < MOST_BYTES; i++) {
+            for (int i = start; i >= 0 && i < end && i < book.bytes.length; i++) {
                 putByte(book.bytes[i]);
             }
         }
@@ -1271,7 +1278,7 @@ public final class UnitText {
         }
 
         private void findBegins(Book book) {
-            for (int i = 0; i < itemCount && i < MOST_ITEMS_OF_ONE; i++) {
+            for (int i = 0; i < itemCount && i < begins.length; i++) {
                 int sort = sortAt(book, i);
                 if (Items.isTwoSided(sort)) {
                     begins[i] = beginOf(beginOf(i - 1) - 1);
@@ -1282,7 +1289,7 @@ public final class UnitText {
         }
 
         private int beginOf(int i) {
-            return i >= 0 && i < itemCount && i < MOST_ITEMS_OF_ONE ? begins[i] : NONE;
+            return i >= 0 && i < itemCount && i < begins.length ? begins[i] : NONE;
         }
 
         private int sortAt(Book book, int i) {

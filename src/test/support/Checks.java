@@ -1,0 +1,119 @@
+import java.nio.charset.StandardCharsets;
+
+/** What the project's tests have in common: texts in and out of a UnitText, and counting what is wrong. */
+final class Checks {
+    private static int wrong = 0;
+    private static int made = 0;
+
+    private Checks() {
+    }
+
+    static void same(String call, Object got, Object want) {
+        made++;
+        if (!got.equals(want)) {
+            wrong++;
+            if (wrong <= 50) {
+                System.out.println(call + " answered " + got + ", due is " + want);
+            }
+        }
+    }
+
+    static void due(String call, long got, long want) {
+        same(call, got, want);
+    }
+
+    static void finish() {
+        System.out.println(made + " answers, " + wrong + " of them wrong");
+        if (wrong != 0) {
+            System.exit(1);
+        }
+    }
+
+    /** Puts a text, a byte a character, behind the TEXT. */
+    static void put(UnitText x, String text) {
+        byte[] bytes = text.getBytes(StandardCharsets.ISO_8859_1);
+        for (int from = 0; from < bytes.length; from += 20) {
+            int n = Math.min(20, bytes.length - from);
+            int[] five = new int[5];
+            for (int i = 0; i < n; i++) {
+                five[i / 4] |= (bytes[from + i] & 255) << (24 - 8 * (i % 4));
+            }
+            x.feed(five[0], five[1], five[2], five[3], five[4]);
+            x.end(n);
+        }
+    }
+
+    /** What read() does with a text: how many STATEMENTS, or the FAULT and its PLACE. */
+    static String outcome(UnitText x, String text) {
+        put(x, text);
+        try {
+            int n = x.read();
+            return x.fault(0) == 0 && x.fault(1) == -1 ? "read " + n : "read, yet a fault";
+        } catch (IllegalArgumentException e) {
+            return "fault " + x.fault(0) + " at " + x.fault(1);
+        }
+    }
+
+    static String outcome(String text) {
+        return outcome(new UnitText(), text);
+    }
+
+    /** A new object that has read a text. */
+    static UnitText reader(String text) {
+        UnitText x = new UnitText();
+        same("read of <" + text + ">", outcome(x, text).startsWith("read "), true);
+        return x;
+    }
+
+    static String told(UnitText x, int k) {
+        int n = x.tell(k);
+        if (n < 0) {
+            return "none";
+        }
+        StringBuilder b = new StringBuilder();
+        for (int i = 0; i < n; i++) {
+            b.append((char) x.letter(i));
+        }
+        due("letter behind OUT", x.letter(n), -1);
+        return b.toString();
+    }
+
+    static String nameOf(UnitText x, int k) {
+        StringBuilder b = new StringBuilder();
+        for (int i = 0; x.name(k, i) != -1; i++) {
+            b.append((char) x.name(k, i));
+        }
+        return b.toString();
+    }
+
+    static String stringOf(UnitText x, int j) {
+        StringBuilder b = new StringBuilder();
+        for (int i = 0; x.string(j, i) != -1; i++) {
+            b.append((char) x.string(j, i));
+        }
+        return b.toString();
+    }
+
+    /** An operand's ITEMS, each as sort or sort:value. */
+    static String itemsOf(UnitText x, int j) {
+        StringBuilder b = new StringBuilder();
+        int first = x.operand(j, 3);
+        for (int t = first; t < first + x.operand(j, 4); t++) {
+            b.append(t == first ? "" : " ").append(x.item(t, 0));
+            if (x.item(t, 0) < 3) {
+                b.append(':').append(x.item(t, 1));
+            } else {
+                due("value of an item of sort " + x.item(t, 0), x.item(t, 1), 0);
+            }
+        }
+        return b.toString();
+    }
+
+    static String many(String part, int times, String between) {
+        StringBuilder b = new StringBuilder();
+        for (int i = 0; i < times; i++) {
+            b.append(i == 0 ? "" : between).append(part);
+        }
+        return b.toString();
+    }
+}
