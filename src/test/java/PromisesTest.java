@@ -321,6 +321,15 @@ public final class PromisesTest {
         for (int i : new int[] {-1, 1, LEAST, MOST}) {
             Checks.due("string 4, " + i, x.string(4, i), NONE);
         }
+        // All 3000 bytes of a TEXT: three names and a STRING that fills the rest.
+        UnitText y = Checks.reader("ab:cd\nw \"" + Checks.many("q", 2989, "") + "z\"");
+        Checks.due("a long STRING", y.operand(0, 6), 2990);
+        Checks.due("a long STRING's last byte", y.string(0, 2989), 'z');
+        Checks.due("behind a long STRING", y.string(0, 2990), NONE);
+        Checks.same("a name ahead of a long STRING", Checks.nameOf(y, 1), "cd");
+        Checks.same("3000 lines and one", Checks.outcome(y, Checks.many("\n", 2999, "") + "1"), "fault 5 at 3000");
+        Checks.same("a word in the last line", Checks.outcome(y, Checks.many("\n", 2999, "") + "a"), "read 1");
+        Checks.due("its line", y.statement(0, 5), 2999);
     }
 
     private static void promise13() {
