@@ -1,11 +1,11 @@
 /** The FAULTS: their numbers and places, which of several comes first, and the limits. */
 public final class FaultsTest {
     private static void faultIs(String text, int number, int place) {
-        Checks.same("<" + text + ">", Checks.outcome(text), "fault " + number + " at " + place);
+        Checks.faultIs(text, number, place);
     }
 
     private static void isRead(String text, int statements) {
-        Checks.same("<" + text + ">", Checks.outcome(text), "read " + statements);
+        Checks.isRead(text, statements);
     }
 
     public static void main(String[] args) {

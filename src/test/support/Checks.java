@@ -1,9 +1,20 @@
+import java.io.IOException;
+import java.lang.reflect.InvocationTargetException;
+import java.lang.reflect.Method;
 import java.nio.charset.StandardCharsets;
+import java.nio.file.Files;
+import java.nio.file.Path;
+import java.util.Arrays;
+import java.util.Comparator;
 
 /** What the project's tests have in common: texts in and out of a UnitText, and counting what is wrong. */
 final class Checks {
+    private static final Path DOCUMENT = Path.of("..", "shared", "DOC.md");
+
     private static int wrong = 0;
     private static int made = 0;
+    private static String held = "";
+    private static int sentences = 0;
 
     private Checks() {
     }
@@ -13,9 +24,55 @@ final class Checks {
         if (!got.equals(want)) {
             wrong++;
             if (wrong <= 50) {
-                System.out.println(call + " answered " + got + ", due is " + want);
+                System.out.println(held + call + " answered " + got + ", due is " + want);
             }
         }
+    }
+
+    /** Which sentence of the document, in its own words, the test that says so holds: a promise's or a term's. */
+    static void sentence(String where, String words) {
+        sentences++;
+        held = "[" + where + ": " + words + "] ";
+    }
+
+    /** Runs each method of a class that has no parameters and answers nothing: each holds one sentence. */
+    static void runSentences(Class<?> tests) throws IllegalAccessException, IOException {
+        String document = Files.exists(DOCUMENT) ? flat(Files.readString(DOCUMENT)) : null;
+        Method[] methods = tests.getDeclaredMethods();
+        Arrays.sort(methods, Comparator.comparing(Method::getName));
+        for (Method method : methods) {
+            if (method.getParameterCount() == 0 && method.getReturnType() == void.class) {
+                int before = sentences;
+                try {
+                    method.invoke(null);
+                } catch (InvocationTargetException e) {
+                    same(method.getName(), "throws " + e.getCause(), "nothing thrown");
+                }
+                same(method.getName() + ": sentences", sentences - before, 1);
+                String words = held.substring(held.indexOf(": ") + 2, held.length() - 2);
+                same(method.getName() + ": is in the document", document == null || document.contains(flat(words)), true);
+                held = "";
+            }
+        }
+        System.out.println(sentences + " sentences");
+    }
+
+    private static String flat(String text) {
+        return text.replaceAll("\\s+", " ");
+    }
+
+    static void faultIs(String text, int number, int place) {
+        same(shown(text), outcome(text), "fault " + number + " at " + place);
+    }
+
+    static void isRead(String text, int statements) {
+        same(shown(text), outcome(text), "read " + statements);
+    }
+
+    /** A text for a message; of a long one its beginning and its end. */
+    static String shown(String text) {
+        int n = text.length();
+        return n <= 120 ? "<" + text + ">" : "<" + text.substring(0, 40) + " .. " + text.substring(n - 40) + "> of " + n + " bytes";
     }
 
     static void due(String call, long got, long want) {
@@ -61,7 +118,7 @@ final class Checks {
     /** A new object that has read a text. */
     static UnitText reader(String text) {
         UnitText x = new UnitText();
-        same("read of <" + text + ">", outcome(x, text).startsWith("read "), true);
+        same("read of " + shown(text), outcome(x, text).startsWith("read "), true);
         return x;
     }
 
