@@ -34,6 +34,26 @@ public final class PromisesEdgesTest {
         return b.append(Checks.stringOf(x, 3)).append(' ').append(Checks.nameOf(x, 2)).append(' ').append(Checks.told(x, 2)).toString();
     }
 
+    // What stands ahead of the promises
+
+    static void answersUpToCall512() {
+        Checks.sentence("What it is", "An object is used for at most 512 calls after it has been made;");
+        UnitText x = new UnitText();
+        for (int round = 1; round <= 128; round++) {
+            x.feed(0x61203120, 0, 0, 0, 0);
+            Checks.due("call " + (4 * round - 2), x.end(3), 3);
+            Checks.due("call " + (4 * round - 1), x.read(), 1);
+            Checks.due("call " + 4 * round, x.constant(0), 1);
+        }
+    }
+
+    static void theConstants() {
+        Checks.sentence("The constants", "`NOTHING = 1L << 40`: What is told when there is no CONSTANT.");
+        Checks.due("NOTHING", UnitText.NOTHING, 1099511627776L);
+        Checks.due("NONE", UnitText.NONE, -1);
+        Checks.due("told when there is none", new UnitText().constant(0), 1099511627776L);
+    }
+
     // Promise 1
 
     static void promise1NothingWasRead() {
@@ -198,6 +218,42 @@ public final class PromisesEdgesTest {
         Checks.same("the next is not behind it", Checks.outcome(x, "b:"), "read 1");
         Checks.due("its place is from 0 on", x.statement(0, 4), 0);
         Checks.same("400 STATEMENTS", Checks.outcome(x, Checks.many("1:", 400, "")), "read 400");
+    }
+
+    static void promise4NothingIsLeftInWhatIsReadNext() {
+        Checks.sentence("Promise 4", "`int read() throws IllegalArgumentException`: The TEXT, which is empty then in any case, is read:");
+        String rich = "w %lo(1)(a1), \"xyz\", %hi(1), 1";
+        String plain = "a: 1: v 5, 6, a0, b";
+        // Read more than once ahead, with and without a FAULT, as what is read may be kept in more than one place.
+        for (String[] ahead : new String[][] {{rich}, {rich, rich}, {rich + " $"}, {rich, rich + " $"}, {rich, rich, rich + " $"}}) {
+            UnitText x = new UnitText();
+            for (String text : ahead) {
+                Checks.outcome(x, text);
+            }
+            Checks.same("read", Checks.outcome(x, plain), "read 3");
+            int[] operands = {0, 0, 4};
+            for (int k = 0; k < 3; k++) {
+                Checks.due("operands of STATEMENT " + k, x.statement(k, 3), operands[k]);
+            }
+            for (int j = 0; j < 4; j++) {
+                Checks.due("register of operand " + j, x.operand(j, 1), j == 2 ? 10 : NONE);
+                Checks.due("mark of operand " + j, x.operand(j, 2), 0);
+                Checks.due("bytes of operand " + j, x.operand(j, 6), 0);
+                Checks.due("a byte of operand " + j, x.string(j, 0), NONE);
+            }
+            int[] counts = {3, 4, 3, 3};
+            for (int what = 0; what < 4; what++) {
+                Checks.due("count " + what, x.count(what), counts[what]);
+            }
+            Checks.due("the first ITEM", x.item(0, 1), 5);
+            Checks.same("the last name", Checks.nameOf(x, 2), "b");
+        }
+        UnitText y = new UnitText();
+        String most = "w \"" + Checks.many("q", 1700, "") + "z\",last";
+        Checks.same("many bytes, refused", Checks.outcome(y, most + " $"), "fault 1 at " + (most.length() + 1));
+        Checks.same("as many again", Checks.outcome(y, most), "read 1");
+        Checks.due("the last byte of the STRING", y.string(0, 1700), 'z');
+        Checks.same("the name behind it", Checks.nameOf(y, 1), "last");
     }
 
     static void promise4AFaultThrows() {
@@ -460,6 +516,9 @@ public final class PromisesEdgesTest {
         for (int j : new int[] {-1, 11, 799, 800, LEAST, MOST, 1 << 29}) {
             Checks.due("constant " + j, x.constant(j), UnitText.NOTHING);
         }
+        UnitText y = Checks.reader("w 7");
+        Checks.due("ahead of the only one", y.constant(-1), UnitText.NOTHING);
+        Checks.due("behind the only one", y.constant(1), UnitText.NOTHING);
     }
 
     // Promise 10

@@ -312,6 +312,14 @@ public final class TermsEdgesTest {
         Checks.faultIs("w '\\", 4, 2);
     }
 
+    static void signsAreWords() {
+        Checks.sentence("WORDS", "SIGNS: , ( ) : + - * / % & | ^ ~ << >>");
+        for (String sign : ", ( ) : + - * / % & | ^ ~ << >>".split(" ")) {
+            // No sign begins a line, so each is a word that can't stand there, and not a byte that begins none.
+            Checks.faultIs(sign, 5, 0);
+        }
+    }
+
     static void lessAndMoreByThemselves() {
         Checks.sentence("WORDS", "(a < or > by itself begins no word)");
         Checks.faultIs("w 1 < 2", 1, 4);
@@ -434,6 +442,28 @@ public final class TermsEdgesTest {
     }
 
     // OPERANDS
+
+    static void registersAndStrings() {
+        Checks.sentence("OPERANDS", "OPERANDS: a REGISTER; a STRING;");
+        UnitText x = Checks.reader("w x0, \"\", x31, \"x31\"");
+        Checks.due("the first REGISTER", x.operand(0, 0), 1);
+        Checks.due("an empty STRING", x.operand(1, 0), 3);
+        Checks.due("the last REGISTER", x.operand(2, 0), 1);
+        Checks.due("a STRING", x.operand(3, 0), 3);
+        Checks.faultIs("w x0 + 1", 5, 5);
+        Checks.faultIs("w \"\" + 1", 5, 5);
+        Checks.faultIs("w x0\"\"", 5, 4);
+    }
+
+    static void expressionsAsOperands() {
+        Checks.sentence("OPERANDS", "an EXPRESSION; a MARKED one:");
+        for (String one : new String[] {"1", "'a'", "1b", ".", "b", "(1)", "-1", "~1", "x32", "%hi(1)"}) {
+            Checks.due(one, Checks.reader("w " + one).operand(0, 0), 0);
+        }
+        for (String none : new String[] {")", ":", ",", "+", "*", "/", "&", "|", "^", "<<", ">>"}) {
+            Checks.faultIs("w a0, " + none + "1", 5, 6);
+        }
+    }
 
     static void memoriesWithAndWithoutExpression() {
         Checks.sentence("OPERANDS",
@@ -628,6 +658,13 @@ public final class TermsEdgesTest {
         Checks.sentence("CONSTANT", "if all its operands are numbers: worked out with ints:");
         constantIs("5", 5);
         constantIs("'a'+1", 98);
+        constantIs("6&3", 2);
+        constantIs("6^3", 5);
+        constantIs("6|3", 7);
+        constantIs("~0", -1);
+        constantIs("~2147483648", 2147483647);
+        constantIs("1+~2", -2);
+        constantIs("1+-2", -1);
         constantIs("4294967295", -1);
         constantIs("b", UnitText.NOTHING);
         constantIs("1b", UnitText.NOTHING);
@@ -847,5 +884,30 @@ public final class TermsEdgesTest {
         Checks.sentence("A STATEMENT as a TEXT", "a MEMORY: the EXPRESSION or MARKED one, then ( , the REGISTER, ).");
         readsAs("w (sp),0(sp),1+2(sp),(1+2)(sp),(1)(sp)", "w 0(x2), 0(x2), 1 + 2(x2), 1 + 2(x2), 1(x2)");
         readsAs("w %lo(b)(sp),-b(t6)", "w %lo(b)(x2), -b(x31)");
+    }
+
+    static void toldReadsAsItDoes() {
+        Checks.sentence("What it is", "each statement told back as a text that reads as it does.");
+        String open = Checks.many("2-(", 19, "");
+        String close = Checks.many(")", 19, "");
+        String[] texts = {"_:", "9:", "w", "x31", "w \"\"", "w -" + Checks.many("1", 30, "+"), "w " + open + "1" + close,
+            "w " + Checks.many("~", 19, "") + "b", "w %pcrel_lo(" + open + ".-1f" + close + ")(zero)", "w (sp)",
+            "w 0xffffffff,0b,'\\'',\"\\0\\'\",1-(2-3)-4,(1|2)&3,-(1*2),~(-1)"};
+        for (String text : texts) {
+            UnitText x = Checks.reader(text);
+            String told = Checks.told(x, 0);
+            UnitText y = Checks.reader(told);
+            Checks.same(told + " told again", Checks.told(y, 0), told);
+            for (int what = 0; what < 4; what++) {
+                Checks.due(told + " statement " + what, y.statement(0, what), x.statement(0, what));
+            }
+            for (int j = 0; j < x.count(1); j++) {
+                Checks.same(told + " items " + j, Checks.itemsOf(y, j), Checks.itemsOf(x, j));
+                Checks.same(told + " string " + j, Checks.stringOf(y, j), Checks.stringOf(x, j));
+                for (int what = 0; what < 5; what++) {
+                    Checks.due(told + " operand " + j + ", " + what, y.operand(j, what), x.operand(j, what));
+                }
+            }
+        }
     }
 }
