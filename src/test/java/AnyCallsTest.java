@@ -6,13 +6,15 @@ public final class AnyCallsTest {
         5999, 6000, Integer.MAX_VALUE, Integer.MIN_VALUE, 0x20202020, 0x28282828, 0x2D2D2D2D, 0x61203120, 0x0A613A20,
         0x22222222, 0x5C5C5C5C, 0x27272727, 0x312C312C, 0x2B312B31, 0x613A613A};
     private static final Random CHANCE = new Random(1);
+    /** No turn of one() makes more calls than so many. */
+    private static final int MOST_OF_ONE = 5;
 
     private static int any() {
         int sort = CHANCE.nextInt(4);
         return sort == 0 ? CHANCE.nextInt() : sort == 1 ? CHANCE.nextInt(10) : EDGES[CHANCE.nextInt(EDGES.length)];
     }
 
-    private static long one(UnitText x) {
+    private static long one(Counted x) {
         switch (CHANCE.nextInt(18)) {
             case 0:
             case 1:
@@ -51,7 +53,7 @@ public final class AnyCallsTest {
         }
     }
 
-    private static long readOf(UnitText x) {
+    private static long readOf(Counted x) {
         try {
             int n = x.read();
             Checks.due("what read() tells is counted", x.count(0), n);
@@ -64,10 +66,23 @@ public final class AnyCallsTest {
         }
     }
 
+    /** A TEXT as long as can be, of bytes that often make words. */
+    private static void fill(Counted x) {
+        for (int n = 1; n <= 150; n++) {
+            int four = EDGES[CHANCE.nextInt(EDGES.length)];
+            x.feed(four, four, four, CHANCE.nextInt(100) == 0 ? any() : four, 0x20312C31);
+            Checks.due("TEXT of " + 20 * n, x.end(20), 20 * n);
+        }
+        readOf(x);
+    }
+
     public static void main(String[] args) {
-        for (int run = 0; run < 300; run++) {
-            UnitText x = new UnitText();
-            for (int call = 0; call < 600; call++) {
+        for (int run = 0; run < 500; run++) {
+            Counted x = new Counted();
+            if (run % 5 == 0) {
+                fill(x);
+            }
+            while (x.callsLeft() >= MOST_OF_ONE) {
                 one(x);
             }
         }

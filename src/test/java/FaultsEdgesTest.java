@@ -266,7 +266,7 @@ public final class FaultsEdgesTest {
     static void itemNumber2001() {
         Checks.sentence(WHERE, "2001st ITEM,");
         int end = NEARLY_2000.length();
-        UnitText x = Checks.reader(NEARLY_2000 + ",7");
+        Counted x = Checks.reader(NEARLY_2000 + ",7");
         Checks.due("the 2000th", x.item(1999, 1), 7);
         Checks.due("none behind it", x.item(2000, 0), 0);
         Checks.due("2000 of them", x.count(2), 2000);
@@ -289,7 +289,7 @@ public final class FaultsEdgesTest {
         faultIs("w " + NEARLY_SIXTY + "+b", 8, 62);
         faultIs("w " + NEARLY_SIXTY + "+-1", 8, 62);
         faultIs("w 1,%hi(" + NEARLY_SIXTY + "+1", 8, 68);
-        UnitText x = Checks.reader("w -" + NEARLY_SIXTY + ",-" + NEARLY_SIXTY);
+        Counted x = Checks.reader("w -" + NEARLY_SIXTY + ",-" + NEARLY_SIXTY);
         Checks.due("each has its own 60", x.count(2), 120);
         Checks.due("their CONSTANT", x.constant(1), 28);
     }

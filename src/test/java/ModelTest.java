@@ -144,7 +144,8 @@ public final class ModelTest {
         return tail;
     }
 
-    private static void compareOperand(UnitText x, Model m, int j, String at) {
+    private static void compareOperand(Readers readers, Model m, int j, String at) {
+        Counted x = readers.with(40);
         for (int what = 0; what < 7; what++) {
             Checks.due(at + " operand " + j + " " + what, x.operand(j, what), m.operands.get(j)[what]);
         }
@@ -152,73 +153,102 @@ public final class ModelTest {
         Checks.same(at + " string " + j, Checks.stringOf(x, j), m.strings.get(j));
     }
 
-    private static void compare(UnitText x, Model m, String at) {
+    private static void compareStatement(Readers readers, Model m, int k, String at) {
+        Counted x = readers.with(6);
+        for (int what = 0; what < 6; what++) {
+            Checks.due(at + " statement " + k + " " + what, x.statement(k, what), m.statements.get(k)[what]);
+        }
+        Checks.same(at + " tell " + k, readers.told(k), m.told.get(k));
+    }
+
+    private static void compare(Readers readers, Model m, String at) {
+        Counted x = readers.with(4);
         Checks.due(at + " statements", x.count(0), m.statements.size());
         Checks.due(at + " operands", x.count(1), m.operands.size());
         Checks.due(at + " items", x.count(2), m.items.size());
         Checks.due(at + " names", x.count(3), m.names.size());
         for (int k = 0; k < m.statements.size(); k++) {
-            for (int what = 0; what < 6; what++) {
-                Checks.due(at + " statement " + k + " " + what, x.statement(k, what), m.statements.get(k)[what]);
-            }
-            Checks.same(at + " tell " + k, Checks.told(x, k), m.told.get(k));
+            compareStatement(readers, m, k, at);
         }
         for (int j = 0; j < m.operands.size(); j++) {
-            compareOperand(x, m, j, at);
+            compareOperand(readers, m, j, at);
         }
         for (int t = 0; t < m.items.size(); t++) {
-            Checks.due(at + " item " + t, x.item(t, 0), m.items.get(t)[0]);
-            Checks.due(at + " item's value " + t, x.item(t, 1), m.items.get(t)[1]);
+            Counted y = readers.with(2);
+            Checks.due(at + " item " + t, y.item(t, 0), m.items.get(t)[0]);
+            Checks.due(at + " item's value " + t, y.item(t, 1), m.items.get(t)[1]);
         }
         for (int k = 0; k < m.names.size(); k++) {
-            Checks.same(at + " name " + k, Checks.nameOf(x, k), m.names.get(k));
+            Checks.same(at + " name " + k, Checks.nameOf(readers.with(17), k), m.names.get(k));
         }
     }
 
     /** What is told reads as that of which it was told: telling it again changes nothing. */
-    private static void readAgain(UnitText y, Model m, String at) throws Model.Fault {
+    private static void readAgain(Model m, String at) {
         for (int k = 0; k < m.told.size(); k++) {
             String told = m.told.get(k);
             if (told.length() <= 3000) {
-                Checks.same(at + " reading <" + told + ">", Checks.outcome(y, told), "read 1");
-                Checks.same(at + " telling again", Checks.told(y, 0), told);
-                Checks.due(at + " sort again", y.statement(0, 0), m.statements.get(k)[0]);
+                Readers again = new Readers(told);
+                Checks.same(at + " reading <" + told + ">", again.outcome(), "read 1");
+                Checks.same(at + " telling again", again.told(0), told);
+                Checks.due(at + " sort again", again.with(1).statement(0, 0), m.statements.get(k)[0]);
                 int first = m.statements.get(k)[2];
                 for (int j = 0; j < m.statements.get(k)[3]; j++) {
-                    Checks.due(at + " constant again", y.constant(j), m.constants.get(first + j));
-                    Checks.due(at + " items again", y.operand(j, 4), m.operands.get(first + j)[4]);
+                    Checks.due(at + " constant again", again.with(1).constant(j), m.constants.get(first + j));
+                    Checks.due(at + " items again", again.with(1).operand(j, 4), m.operands.get(first + j)[4]);
                 }
             }
         }
     }
 
+    private static String text(int round) {
+        String text;
+        switch (round % 200 == 7 ? 8 : round % 8) {
+            case 0:
+            case 1:
+                text = lines();
+                break;
+            case 2:
+            case 3:
+            case 4:
+                text = spoilt(lines());
+                break;
+            case 5:
+            case 6:
+                text = soup();
+                break;
+            case 7:
+                text = upTo(2) == 0 ? deep() : "";
+                break;
+            default:
+                text = upTo(3) == 0 ? spoilt(large()) : large();
+                break;
+        }
+        return text.length() > 3000 ? text.substring(0, 3000) : text;
+    }
+
     public static void main(String[] args) throws Model.Fault {
-        UnitText x = new UnitText();
-        UnitText y = new UnitText();
-        Model last = new Model("");
+        // What was read before is short, so that an object has calls left behind both texts.
+        String before = "";
         int faults = 0;
         int rounds = args.length > 0 ? Integer.parseInt(args[0]) : 20000;
         for (int round = 0; round < rounds; round++) {
-            int sort = round % 8;
-            String text = sort < 2 ? lines() : sort < 5 ? spoilt(lines()) : sort < 7 ? soup() : upTo(2) == 0 ? deep() : "";
-            if (round % 200 == 7) {
-                text = upTo(3) == 0 ? spoilt(large()) : large();
-            }
-            text = text.length() > 3000 ? text.substring(0, 3000) : text;
-            String got = Checks.outcome(x, text);
+            String text = text(round);
             String at = "round " + round + " <" + (text.length() > 400 ? text.length() + " bytes" : text) + ">";
+            Readers readers = new Readers(before, text);
             try {
                 Model m = new Model(text);
-                Checks.same(at, got, "read " + m.statements.size());
-                compare(x, m, at);
-                readAgain(y, m, at);
-                last = m;
+                Checks.same(at, readers.outcome(), "read " + m.statements.size());
+                compare(readers, m, at);
+                readAgain(m, at);
+                before = text.length() <= 1000 ? text : before;
             } catch (Model.Fault f) {
                 faults++;
-                Checks.same(at, got, "fault " + f.number + " at " + f.place);
-                Checks.due(at + " leaves what was read", x.count(0), last.statements.size());
+                Checks.same(at, readers.outcome(), "fault " + f.number + " at " + f.place);
+                Model old = new Model(before);
+                Checks.due(at + " leaves what was read", readers.with(1).count(0), old.statements.size());
                 if (faults % 50 == 0) {
-                    compare(x, last, at + " then");
+                    compare(readers, old, at + " then");
                 }
             }
         }

@@ -11,16 +11,16 @@ public final class PromisesEdgesTest {
         Checks.finish();
     }
 
-    private static void feedBlanks(UnitText x) {
+    private static void feedBlanks(Counted x) {
         x.feed(BLANKS, BLANKS, BLANKS, BLANKS, BLANKS);
     }
 
-    private static void fill(UnitText x, int bytes) {
+    private static void fill(Counted x, int bytes) {
         Checks.put(x, Checks.many(" ", bytes, ""));
     }
 
     /** All that ALL_SORTS leaves to be told, one after the other. */
-    private static String allOf(UnitText x) {
+    private static String allOf(Counted x) {
         StringBuilder b = new StringBuilder();
         for (int what = 0; what < 4; what++) {
             b.append(x.count(what)).append(' ');
@@ -38,7 +38,7 @@ public final class PromisesEdgesTest {
 
     static void answersUpToCall512() {
         Checks.sentence("What it is", "An object is used for at most 512 calls after it has been made;");
-        UnitText x = new UnitText();
+        Counted x = new Counted();
         for (int round = 1; round <= 128; round++) {
             x.feed(0x61203120, 0, 0, 0, 0);
             Checks.due("call " + (4 * round - 2), x.end(3), 3);
@@ -51,14 +51,14 @@ public final class PromisesEdgesTest {
         Checks.sentence("The constants", "`NOTHING = 1L << 40`: What is told when there is no CONSTANT.");
         Checks.due("NOTHING", UnitText.NOTHING, 1099511627776L);
         Checks.due("NONE", UnitText.NONE, -1);
-        Checks.due("told when there is none", new UnitText().constant(0), 1099511627776L);
+        Checks.due("told when there is none", new Counted().constant(0), 1099511627776L);
     }
 
     // Promise 1
 
     static void promise1NothingWasRead() {
         Checks.sentence("Promise 1", "No TEXT; nothing was read.");
-        UnitText x = new UnitText();
+        Counted x = new Counted();
         Checks.due("no TEXT", x.end(0), 0);
         for (int what = 0; what < 4; what++) {
             Checks.due("count " + what, x.count(what), 0);
@@ -80,11 +80,11 @@ public final class PromisesEdgesTest {
 
     static void promise1ObjectsAreApart() {
         Checks.sentence("Promise 1", "`UnitText()`: No TEXT; nothing was read.");
-        UnitText x = Checks.reader(ALL_SORTS);
+        Counted x = Checks.reader(ALL_SORTS);
         x.tell(0);
         feedBlanks(x);
         x.end(4);
-        UnitText y = new UnitText();
+        Counted y = new Counted();
         Checks.due("another's TEXT", y.end(0), 0);
         Checks.due("another's STATEMENTS", y.count(0), 0);
         Checks.due("another's OUT", y.letter(0), NONE);
@@ -97,7 +97,7 @@ public final class PromisesEdgesTest {
 
     static void promise2TwentyBytesTheHighestFirst() {
         Checks.sentence("Promise 2", "Twenty bytes wait, those of a first, the highest of each first.");
-        UnitText x = new UnitText();
+        Counted x = new Counted();
         x.feed(0x77202261, 0x62636465, 0x66676869, 0x6A6B6C6D, 0x6E6F7022);
         Checks.due("twenty", x.end(20), 20);
         Checks.same("read", Checks.outcome(x, ""), "read 1");
@@ -120,11 +120,11 @@ public final class PromisesEdgesTest {
 
     static void promise2ZerosAtFirst() {
         Checks.sentence("Promise 2", "(They are 0 at first,");
-        UnitText x = new UnitText();
+        Counted x = new Counted();
         Checks.due("without feed", x.end(20), 20);
         Checks.same("a byte 0 begins no word", Checks.outcome(x, ""), "fault 1 at 0");
         for (int n = 0; n <= 20; n++) {
-            UnitText y = new UnitText();
+            Counted y = new Counted();
             Checks.due("the first " + n, y.end(n), n);
             Checks.same("the first " + n + " read", Checks.outcome(y, ""), n == 0 ? "read 0" : "fault 1 at 0");
         }
@@ -133,13 +133,13 @@ public final class PromisesEdgesTest {
     static void promise2ZerosBehindEnd() {
         Checks.sentence("Promise 2", "and behind each end() that is not refused.)");
         for (int n = 0; n <= 20; n++) {
-            UnitText x = new UnitText();
+            Counted x = new Counted();
             feedBlanks(x);
             Checks.due("end " + n, x.end(n), n);
             Checks.due("and twenty more", x.end(20), n + 20);
             Checks.same("those are 0", Checks.outcome(x, ""), "fault 1 at " + n);
         }
-        UnitText y = new UnitText();
+        Counted y = new Counted();
         feedBlanks(y);
         Checks.due("refused", y.end(21), NONE);
         Checks.due("refused, too", y.end(-1), NONE);
@@ -156,7 +156,7 @@ public final class PromisesEdgesTest {
 
     static void promise3HowManyItHas() {
         Checks.sentence("Promise 3", "The first n of the bytes that wait come behind the TEXT: how many it has.");
-        UnitText x = new UnitText();
+        Counted x = new Counted();
         int all = 0;
         for (int n = 0; n <= 20; n++) {
             feedBlanks(x);
@@ -174,7 +174,7 @@ public final class PromisesEdgesTest {
 
     static void promise3RefusedOutsideOfTwenty() {
         Checks.sentence("Promise 3", "NONE, refused, when n isn't 0 .. 20,");
-        UnitText x = new UnitText();
+        Counted x = new Counted();
         x.feed(0x61000000, 0, 0, 0, 0);
         for (int n : new int[] {-1, -2, -20, LEAST, 21, 22, 3000, MOST}) {
             Checks.due("end " + n, x.end(n), NONE);
@@ -187,7 +187,7 @@ public final class PromisesEdgesTest {
 
     static void promise3RefusedBeyond3000() {
         Checks.sentence("Promise 3", "or there would be more than 3000.");
-        UnitText x = new UnitText();
+        Counted x = new Counted();
         fill(x, 2980);
         feedBlanks(x);
         Checks.due("20 that just fit", x.end(20), 3000);
@@ -196,7 +196,7 @@ public final class PromisesEdgesTest {
             Checks.due("full: " + n, x.end(n), NONE);
         }
         Checks.same("full: read", Checks.outcome(x, ""), "read 0");
-        UnitText y = new UnitText();
+        Counted y = new Counted();
         fill(y, 2981);
         feedBlanks(y);
         Checks.due("20 are one too many", y.end(20), NONE);
@@ -209,7 +209,7 @@ public final class PromisesEdgesTest {
 
     static void promise4TheTextIsEmptyThen() {
         Checks.sentence("Promise 4", "The TEXT, which is empty then in any case, is read: how many STATEMENTS.");
-        UnitText x = new UnitText();
+        Counted x = new Counted();
         Checks.same("an empty TEXT", Checks.outcome(x, ""), "read 0");
         Checks.same("one STATEMENT", Checks.outcome(x, "a"), "read 1");
         Checks.due("empty", x.end(0), 0);
@@ -226,7 +226,7 @@ public final class PromisesEdgesTest {
         String plain = "a: 1: v 5, 6, a0, b";
         // Read more than once ahead, with and without a FAULT, as what is read may be kept in more than one place.
         for (String[] ahead : new String[][] {{rich}, {rich, rich}, {rich + " $"}, {rich, rich + " $"}, {rich, rich, rich + " $"}}) {
-            UnitText x = new UnitText();
+            Counted x = new Counted();
             for (String text : ahead) {
                 Checks.outcome(x, text);
             }
@@ -248,7 +248,7 @@ public final class PromisesEdgesTest {
             Checks.due("the first ITEM", x.item(0, 1), 5);
             Checks.same("the last name", Checks.nameOf(x, 2), "b");
         }
-        UnitText y = new UnitText();
+        Counted y = new Counted();
         String most = "w \"" + Checks.many("q", 1700, "") + "z\",last";
         Checks.same("many bytes, refused", Checks.outcome(y, most + " $"), "fault 1 at " + (most.length() + 1));
         Checks.same("as many again", Checks.outcome(y, most), "read 1");
@@ -261,7 +261,7 @@ public final class PromisesEdgesTest {
         String[] texts = {"$", "a2345678901234567", "w 0x", "w '", "w ,", "w 1+a0", "w " + Checks.many("-", 20, "") + "1",
             Checks.many("a:", 401, "")};
         for (int i = 0; i < texts.length; i++) {
-            UnitText x = new UnitText();
+            Counted x = new Counted();
             Checks.put(x, texts[i]);
             Class<?> thrown = null;
             try {
@@ -278,22 +278,22 @@ public final class PromisesEdgesTest {
         Checks.sentence("Promise 4", "(what was read before stays).");
         String want = allOf(Checks.reader(ALL_SORTS));
         for (String text : new String[] {"$", "q: r: s 9, t6, \"long\", z\n $", "w 1,", "w " + Checks.many("-", 20, "") + "1"}) {
-            UnitText x = Checks.reader(ALL_SORTS);
+            Counted x = Checks.reader(ALL_SORTS);
             Checks.same("refused", Checks.outcome(x, text).startsWith("fault"), true);
             Checks.same("all stays behind <" + text + ">", allOf(x), want);
         }
-        UnitText y = Checks.reader(ALL_SORTS);
+        Counted y = Checks.reader(ALL_SORTS);
         Checks.same("refused", Checks.outcome(y, Checks.many("b:", 401, "")), "fault 8 at 800");
         Checks.due("names of the refused", y.find('b', 0), 2);
         Checks.due("STATEMENTS of the refused", y.count(0), 4);
         Checks.same("refused again", Checks.outcome(y, ","), "fault 5 at 0");
         Checks.same("all stays behind two", allOf(y), want);
-        UnitText z = new UnitText();
+        Counted z = new Counted();
         Checks.same("refused at first", Checks.outcome(z, "a: b 1, $"), "fault 1 at 8");
         for (int what = 0; what < 4; what++) {
             Checks.due("nothing was read before", z.count(what), 0);
         }
-        UnitText u = Checks.reader(ALL_SORTS);
+        Counted u = Checks.reader(ALL_SORTS);
         Checks.same("not refused", Checks.outcome(u, "q"), "read 1");
         Checks.due("then its operands go", u.count(1), 0);
         Checks.due("and its names", u.count(3), 1);
@@ -307,7 +307,7 @@ public final class PromisesEdgesTest {
 
     static void promise5TheNumber() {
         Checks.sentence("Promise 5", "Of the latest read(): the FAULT's number, 0 without one, or before (what 0),");
-        UnitText x = new UnitText();
+        Counted x = new Counted();
         Checks.due("before", x.fault(0), 0);
         Checks.put(x, "$");
         Checks.due("before its read()", x.fault(0), 0);
@@ -321,7 +321,7 @@ public final class PromisesEdgesTest {
 
     static void promise5ThePlace() {
         Checks.sentence("Promise 5", "its PLACE, NONE without one (1).");
-        UnitText x = new UnitText();
+        Counted x = new Counted();
         Checks.due("before", x.fault(1), NONE);
         Checks.same("place 0", Checks.outcome(x, "$"), "fault 1 at 0");
         Checks.same("the TEXT's length", Checks.outcome(x, "w 1,"), "fault 5 at 4");
@@ -332,7 +332,7 @@ public final class PromisesEdgesTest {
 
     static void promise5AnotherWhat() {
         Checks.sentence("Promise 5", "NONE for another what.");
-        UnitText x = new UnitText();
+        Counted x = new Counted();
         Checks.outcome(x, "w $");
         for (int what : new int[] {-1, 2, 3, LEAST, MOST}) {
             Checks.due("fault " + what, x.fault(what), NONE);
@@ -343,7 +343,7 @@ public final class PromisesEdgesTest {
 
     static void promise6HowMany() {
         Checks.sentence("Promise 6", "How many STATEMENTS (what 0), operands (1), ITEMS (2), names (3) there are;");
-        UnitText x = Checks.reader(ALL_SORTS);
+        Counted x = Checks.reader(ALL_SORTS);
         int[] want = {4, 5, 5, 4};
         for (int what = 0; what < 4; what++) {
             Checks.due("count " + what, x.count(what), want[what]);
@@ -356,7 +356,7 @@ public final class PromisesEdgesTest {
 
     static void promise6AnotherWhat() {
         Checks.sentence("Promise 6", "NONE for another what.");
-        UnitText x = Checks.reader(ALL_SORTS);
+        Counted x = Checks.reader(ALL_SORTS);
         for (int what : new int[] {-1, 4, 5, LEAST, MOST}) {
             Checks.due("count " + what, x.count(what), NONE);
         }
@@ -364,7 +364,7 @@ public final class PromisesEdgesTest {
 
     // Promise 7
 
-    private static void statementIs(UnitText x, int what, int... want) {
+    private static void statementIs(Counted x, int what, int... want) {
         for (int k = 0; k < want.length; k++) {
             Checks.due("statement " + k + ", " + what, x.statement(k, what), want[k]);
         }
@@ -405,7 +405,7 @@ public final class PromisesEdgesTest {
 
     static void promise7NoneSuch() {
         Checks.sentence("Promise 7", "NONE when there is none such, or for another what.");
-        UnitText x = Checks.reader(ALL_SORTS);
+        Counted x = Checks.reader(ALL_SORTS);
         for (int k : new int[] {-1, 4, 5, 399, 400, LEAST, MOST, 1 << 30, -715827882}) {
             for (int what = -1; what <= 6; what++) {
                 Checks.due("statement " + k + ", " + what, x.statement(k, what), NONE);
@@ -416,7 +416,7 @@ public final class PromisesEdgesTest {
                 Checks.due("statement " + k + ", " + what, x.statement(k, what), NONE);
             }
         }
-        UnitText full = Checks.reader(Checks.many("1:", 400, ""));
+        Counted full = Checks.reader(Checks.many("1:", 400, ""));
         Checks.due("the 400th", full.statement(399, 0), 1);
         Checks.due("behind the 400th", full.statement(400, 0), NONE);
         Checks.same("fewer", Checks.outcome(full, "a"), "read 1");
@@ -426,7 +426,7 @@ public final class PromisesEdgesTest {
     // Promise 8
 
     private static void operandIs(int what, int... want) {
-        UnitText x = Checks.reader("w a0, 1+2, (sp), \"xyz\", %lo(b), \"\", %hi(c)(x31), x0, -4(zero)");
+        Counted x = Checks.reader("w a0, 1+2, (sp), \"xyz\", %lo(b), \"\", %hi(c)(x31), x0, -4(zero)");
         for (int j = 0; j < want.length; j++) {
             Checks.due("operand " + j + ", " + what, x.operand(j, what), want[j]);
         }
@@ -473,7 +473,7 @@ public final class PromisesEdgesTest {
 
     static void promise8NoneSuch() {
         Checks.sentence("Promise 8", "NONE when there is none such, or for another what.");
-        UnitText x = Checks.reader(ALL_SORTS);
+        Counted x = Checks.reader(ALL_SORTS);
         for (int j : new int[] {-1, 5, 799, 800, LEAST, MOST, 1 << 29}) {
             for (int what = -1; what <= 7; what++) {
                 Checks.due("operand " + j + ", " + what, x.operand(j, what), NONE);
@@ -484,7 +484,7 @@ public final class PromisesEdgesTest {
                 Checks.due("operand " + j + ", " + what, x.operand(j, what), NONE);
             }
         }
-        UnitText full = Checks.reader("w " + Checks.many("a0", 800, ","));
+        Counted full = Checks.reader("w " + Checks.many("a0", 800, ","));
         Checks.due("the 800th", full.operand(799, 1), 10);
         Checks.due("behind the 800th", full.operand(800, 1), NONE);
         Checks.same("fewer", Checks.outcome(full, "w 1"), "read 1");
@@ -495,7 +495,7 @@ public final class PromisesEdgesTest {
 
     static void promise9TheConstant() {
         Checks.sentence("Promise 9", "The CONSTANT of operand j's EXPRESSION (a mark does not matter);");
-        UnitText x = Checks.reader("w 7, %hi(8), %pcrel_lo(2147483648)(sp), (sp), -1(sp), 4294967295, 0");
+        Counted x = Checks.reader("w 7, %hi(8), %pcrel_lo(2147483648)(sp), (sp), -1(sp), 4294967295, 0");
         long[] want = {7, 8, -2147483648L, 0, -1, -1, 0};
         for (int j = 0; j < want.length; j++) {
             Checks.due("constant " + j, x.constant(j), want[j]);
@@ -508,7 +508,7 @@ public final class PromisesEdgesTest {
     static void promise9Nothing() {
         Checks.sentence("Promise 9", "NOTHING when there is none.");
         Checks.due("NOTHING", UnitText.NOTHING, 1099511627776L);
-        UnitText x = Checks.reader("w a0, \"7\", \"\", b, ., 1b, 1/0, 1%0, %hi(b)(sp), 1+b, 7");
+        Counted x = Checks.reader("w a0, \"7\", \"\", b, ., 1b, 1/0, 1%0, %hi(b)(sp), 1+b, 7");
         for (int j = 0; j < 10; j++) {
             Checks.due("constant " + j, x.constant(j), UnitText.NOTHING);
         }
@@ -516,7 +516,7 @@ public final class PromisesEdgesTest {
         for (int j : new int[] {-1, 11, 799, 800, LEAST, MOST, 1 << 29}) {
             Checks.due("constant " + j, x.constant(j), UnitText.NOTHING);
         }
-        UnitText y = Checks.reader("w 7");
+        Counted y = Checks.reader("w 7");
         Checks.due("ahead of the only one", y.constant(-1), UnitText.NOTHING);
         Checks.due("behind the only one", y.constant(1), UnitText.NOTHING);
     }
@@ -525,7 +525,7 @@ public final class PromisesEdgesTest {
 
     static void promise10Item() {
         Checks.sentence("Promise 10", "Of ITEM t its sort (what 0), its value (1);");
-        UnitText x = Checks.reader("w 5+b, a0, -9f, .\nv 4294967295");
+        Counted x = Checks.reader("w 5+b, a0, -9f, .\nv 4294967295");
         int[][] want = {{0, 5}, {1, 1}, {12, 0}, {2, 19}, {10, 0}, {3, 0}, {0, -1}};
         for (int t = 0; t < want.length; t++) {
             Checks.due("item " + t + ", 0", x.item(t, 0), want[t][0]);
@@ -535,7 +535,7 @@ public final class PromisesEdgesTest {
 
     static void promise10NoneSuch() {
         Checks.sentence("Promise 10", "0 when there is none such, or for another what.");
-        UnitText x = Checks.reader("w b-7, 9|8");
+        Counted x = Checks.reader("w b-7, 9|8");
         for (int t : new int[] {-1, 6, 1999, 2000, LEAST, MOST, 1 << 30}) {
             for (int what = -1; what <= 2; what++) {
                 Checks.due("item " + t + ", " + what, x.item(t, what), 0);
@@ -554,7 +554,7 @@ public final class PromisesEdgesTest {
 
     static void promise11ByteOfAName() {
         Checks.sentence("Promise 11", "Byte i of name k;");
-        UnitText x = Checks.reader("a: a234567890123456 Zz_.$, w");
+        Counted x = Checks.reader("a: a234567890123456 Zz_.$, w");
         Checks.same("name 0", Checks.nameOf(x, 0), "a");
         Checks.same("name 1", Checks.nameOf(x, 1), "a234567890123456");
         Checks.same("name 2", Checks.nameOf(x, 2), "Zz_.$");
@@ -563,7 +563,7 @@ public final class PromisesEdgesTest {
 
     static void promise11None() {
         Checks.sentence("Promise 11", "NONE when there is none.");
-        UnitText x = Checks.reader("a: a234567890123456 b");
+        Counted x = Checks.reader("a: a234567890123456 b");
         for (int k : new int[] {-1, 3, 149, 150, LEAST, MOST, 1 << 30}) {
             for (int i : new int[] {-1, 0, 1}) {
                 Checks.due("name " + k + ", " + i, x.name(k, i), NONE);
@@ -583,7 +583,7 @@ public final class PromisesEdgesTest {
 
     static void promise12ByteOfAString() {
         Checks.sentence("Promise 12", "Byte i of the STRING that operand j is;");
-        UnitText x = Checks.reader("w \"ab\", 1, \"\\n\\t\\0\\\\\\'\\\"~ \"\nv \"z\"");
+        Counted x = Checks.reader("w \"ab\", 1, \"\\n\\t\\0\\\\\\'\\\"~ \"\nv \"z\"");
         Checks.same("string 0", Checks.stringOf(x, 0), "ab");
         Checks.same("string 2", Checks.stringOf(x, 2), "\n\t\0\\'\"~ ");
         Checks.same("string 3", Checks.stringOf(x, 3), "z");
@@ -591,7 +591,7 @@ public final class PromisesEdgesTest {
 
     static void promise12None() {
         Checks.sentence("Promise 12", "NONE when there is none.");
-        UnitText x = Checks.reader("w \"ab\", \"\", a0, 1, 1(sp), %hi(b), \"c\"");
+        Counted x = Checks.reader("w \"ab\", \"\", a0, 1, 1(sp), %hi(b), \"c\"");
         for (int j : new int[] {1, 2, 3, 4, 5, -1, 7, 799, 800, LEAST, MOST, 1 << 29}) {
             for (int i : new int[] {-1, 0, 1}) {
                 Checks.due("string " + j + ", " + i, x.string(j, i), NONE);
@@ -608,7 +608,7 @@ public final class PromisesEdgesTest {
 
     static void promise13TheNumberOfAName() {
         Checks.sentence("Promise 13", "The number of a name: its characters are the bytes of first and then of second, the highest first,");
-        UnitText x = Checks.reader("b: abcdefgh: abcdefghi: abcdefghijklmnop: ab: ba:");
+        Counted x = Checks.reader("b: abcdefgh: abcdefghi: abcdefghijklmnop: ab: ba:");
         Checks.due("b", x.find('b', 0), 0);
         Checks.due("eight", x.find(0x6162636465666768L, 0), 1);
         Checks.due("eight in the second", x.find(0, 0x6162636465666768L), 1);
@@ -620,7 +620,7 @@ public final class PromisesEdgesTest {
 
     static void promise13ZerosLeftOut() {
         Checks.sentence("Promise 13", "zeros left out;");
-        UnitText x = Checks.reader("abc:");
+        Counted x = Checks.reader("abc:");
         long[][] same = {{0x616263, 0}, {0x6162630000000000L, 0}, {0x0061006200630000L, 0}, {0, 0x616263}, {0, 0x6162630000000000L},
             {0x61, 0x6263}, {0x6100000000000000L, 0x62000000000063L}, {0x6100000000000062L, 0x63L << 56}};
         for (long[] pair : same) {
@@ -630,7 +630,7 @@ public final class PromisesEdgesTest {
 
     static void promise13None() {
         Checks.sentence("Promise 13", "NONE if none that was read has it.");
-        UnitText x = Checks.reader("abc: w a0, hi, %lo(1), .");
+        Counted x = Checks.reader("abc: w a0, hi, %lo(1), .");
         long[] none = {0, 'a', 0x6162, 0x61626364, 0x626364, 0x6263, 0x414243, 0x6130, 0x6C6F, '.', 0x636261, 0xFF616263L, -1, Long.MIN_VALUE};
         for (long first : none) {
             Checks.due("find " + Long.toHexString(first), x.find(first, 0), NONE);
@@ -650,7 +650,7 @@ public final class PromisesEdgesTest {
 
     static void promise14OutBecomes() {
         Checks.sentence("Promise 14", "OUT becomes STATEMENT k as a TEXT: how many bytes.");
-        UnitText x = Checks.reader(ALL_SORTS);
+        Counted x = Checks.reader(ALL_SORTS);
         String[] want = {"a:", "7:", "w x10, 1 + 2, 4(x2), \"xyz\", %lo(b)", "v"};
         for (int k = 0; k < want.length; k++) {
             Checks.due("tell " + k, x.tell(k), want[k].length());
@@ -659,14 +659,14 @@ public final class PromisesEdgesTest {
         // More bytes than a TEXT can have: each sign gets two blanks, each , one, and each REGISTER a digit.
         String longest = "w " + Checks.many(Checks.many("1", 30, "+"), 33, ",") + "," + Checks.many("a7", 339, ",");
         Checks.due("a long one's bytes", longest.length(), 2 + 33 * 60 + 339 * 3 - 1);
-        UnitText y = Checks.reader(longest);
+        Counted y = Checks.reader(longest);
         Checks.due("a long one", y.tell(0), 2 + 33 * (30 + 29 * 3 + 2) + 339 * 5 - 2);
         Checks.due("its last byte", y.letter(y.tell(0) - 1), '7');
     }
 
     static void promise14NoneSuch() {
         Checks.sentence("Promise 14", "NONE, and OUT stays, when there is none such.");
-        UnitText x = Checks.reader("a: bc");
+        Counted x = Checks.reader("a: bc");
         Checks.due("before any", x.tell(2), NONE);
         Checks.due("OUT is empty still", x.letter(0), NONE);
         Checks.due("tell", x.tell(1), 2);
@@ -685,7 +685,7 @@ public final class PromisesEdgesTest {
 
     static void promise15ByteOfOut() {
         Checks.sentence("Promise 15", "Byte i of OUT;");
-        UnitText x = Checks.reader("ab 1\nc:");
+        Counted x = Checks.reader("ab 1\nc:");
         x.tell(0);
         String want = "ab 1";
         for (int i = 0; i < want.length(); i++) {
@@ -699,7 +699,7 @@ public final class PromisesEdgesTest {
 
     static void promise15None() {
         Checks.sentence("Promise 15", "NONE when there is none.");
-        UnitText x = Checks.reader("ab 1\nc:");
+        Counted x = Checks.reader("ab 1\nc:");
         Checks.due("before any tell()", x.letter(0), NONE);
         x.tell(0);
         for (int i : new int[] {-1, 4, 5, 3000, 5999, 6000, 6001, LEAST, MOST}) {

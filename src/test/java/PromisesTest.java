@@ -25,7 +25,7 @@ public final class PromisesTest {
 
     /** A new object: no TEXT; nothing was read. */
     private static void promise1() {
-        UnitText x = new UnitText();
+        Counted x = new Counted();
         for (int what = 0; what < 4; what++) {
             Checks.due("new: count " + what, x.count(what), 0);
         }
@@ -47,7 +47,7 @@ public final class PromisesTest {
     }
 
     private static void promise2() {
-        UnitText x = new UnitText();
+        Counted x = new Counted();
         x.feed(0x2E737472, 0x20226162, 0x63646566, 0x6768696A, 0x6B6C6D22);
         Checks.due("feed: end 20", x.end(20), 20);
         Checks.same("feed: read", Checks.outcome(x, ""), "read 1");
@@ -66,7 +66,7 @@ public final class PromisesTest {
     }
 
     private static void promise3() {
-        UnitText x = new UnitText();
+        Counted x = new Counted();
         int[] refused = {-1, 21, LEAST, MOST};
         x.feed(0x61203120, 0, 0, 0, 0);
         for (int n : refused) {
@@ -95,7 +95,7 @@ public final class PromisesTest {
     }
 
     private static void promise4() {
-        UnitText x = new UnitText();
+        Counted x = new Counted();
         Checks.same("read", Checks.outcome(x, "a: 1: b c, 2\n\n# only a comment\n\td"), "read 4");
         Checks.due("read takes the TEXT", x.end(0), 0);
         Checks.same("read: a fault", Checks.outcome(x, "x: y\nz ,"), "fault 5 at 7");
@@ -119,7 +119,7 @@ public final class PromisesTest {
     }
 
     private static void promise5() {
-        UnitText x = new UnitText();
+        Counted x = new Counted();
         Checks.same("fault", Checks.outcome(x, "ok $"), "fault 1 at 3");
         Checks.due("fault 2", x.fault(2), NONE);
         Checks.due("fault -1", x.fault(-1), NONE);
@@ -133,7 +133,7 @@ public final class PromisesTest {
     }
 
     private static void promise6() {
-        UnitText x = Checks.reader("a: 1: w a0, b+c*3, \"s\", 4(sp)\n w b, a");
+        Counted x = Checks.reader("a: 1: w a0, b+c*3, \"s\", 4(sp)\n w b, a");
         Checks.due("count 0", x.count(0), 4);
         Checks.due("count 1", x.count(1), 6);
         Checks.due("count 2", x.count(2), 8);
@@ -143,7 +143,7 @@ public final class PromisesTest {
         Checks.due("count least", x.count(LEAST), NONE);
     }
 
-    private static void statementIs(UnitText x, int k, int... want) {
+    private static void statementIs(Counted x, int k, int... want) {
         for (int what = 0; what < 6; what++) {
             Checks.due("statement " + k + ", " + what, x.statement(k, what), want[what]);
         }
@@ -153,7 +153,7 @@ public final class PromisesTest {
     }
 
     private static void promise7() {
-        UnitText x = Checks.reader("a: 7 : w 1, 2\n\n b\n0:\nw a0\nc: x5 # end");
+        Counted x = Checks.reader("a: 7 : w 1, 2\n\n b\n0:\nw a0\nc: x5 # end");
         statementIs(x, 0, 0, 0, 0, 0, 0, 0);
         statementIs(x, 1, 1, 7, 0, 0, 3, 0);
         statementIs(x, 2, 2, 1, 0, 2, 7, 0);
@@ -168,7 +168,7 @@ public final class PromisesTest {
         }
     }
 
-    private static void operandIs(UnitText x, int j, int... want) {
+    private static void operandIs(Counted x, int j, int... want) {
         for (int what = 0; what < 7; what++) {
             Checks.due("operand " + j + ", " + what, x.operand(j, what), want[what]);
         }
@@ -178,7 +178,7 @@ public final class PromisesTest {
     }
 
     private static void promise8() {
-        UnitText x = Checks.reader("w a0, 1+2, (sp), -4(fp), %lo(b), %pcrel_lo(c)(t6), \"a\\n\", \"\", (1)(ra), (2)");
+        Counted x = Checks.reader("w a0, 1+2, (sp), -4(fp), %lo(b), %pcrel_lo(c)(t6), \"a\\n\", \"\", (1)(ra), (2)");
         operandIs(x, 0, 1, 10, 0, 0, 0, 2, 0);
         operandIs(x, 1, 0, NONE, 0, 0, 3, 6, 0);
         operandIs(x, 2, 2, 2, 0, 3, 1, 11, 0);
@@ -199,7 +199,7 @@ public final class PromisesTest {
         String[] names = ("zero ra sp gp tp t0 t1 t2 s0 s1 a0 a1 a2 a3 a4 a5 a6 a7 "
             + "s2 s3 s4 s5 s6 s7 s8 s9 s10 s11 t3 t4 t5 t6").split(" ");
         for (int i = 0; i < 32; i++) {
-            UnitText x = Checks.reader("w x" + i + ", " + names[i] + ", 0(" + names[i] + ")");
+            Counted x = Checks.reader("w x" + i + ", " + names[i] + ", 0(" + names[i] + ")");
             for (int j = 0; j < 3; j++) {
                 Checks.due("register x" + i, x.operand(j, 1), i);
             }
@@ -251,7 +251,7 @@ public final class PromisesTest {
         constantIs("0*a", UnitText.NOTHING);
         constantIs(".-.", UnitText.NOTHING);
         constantIs("1b-1b", UnitText.NOTHING);
-        UnitText x = Checks.reader("w (sp), a0, \"s\", \"\", 5");
+        Counted x = Checks.reader("w (sp), a0, \"s\", \"\", 5");
         Checks.due("a MEMORY without EXPRESSION", x.constant(0), 0);
         Checks.due("a REGISTER", x.constant(1), UnitText.NOTHING);
         Checks.due("a STRING", x.constant(2), UnitText.NOTHING);
@@ -284,7 +284,7 @@ public final class PromisesTest {
         itemsAre("4294967295", "0:-1");
         itemsAre("%hi(c)", "1:1");
         itemsAre("'A'", "0:65");
-        UnitText x = Checks.reader("w 7, 8");
+        Counted x = Checks.reader("w 7, 8");
         Checks.due("item 1", x.item(1, 1), 8);
         for (int what : new int[] {2, -1, LEAST, MOST}) {
             Checks.due("item 0, " + what, x.item(0, what), 0);
@@ -295,7 +295,7 @@ public final class PromisesTest {
     }
 
     private static void promise11() {
-        UnitText x = Checks.reader("sixteen_letters_: w a0, hi, %lo(_.$9), ., z9, w\n x1 (sp)\nz9:");
+        Counted x = Checks.reader("sixteen_letters_: w a0, hi, %lo(_.$9), ., z9, w\n x1 (sp)\nz9:");
         String[] names = {"sixteen_letters_", "w", "hi", "_.$9", "z9", "x1"};
         Checks.due("names", x.count(3), names.length);
         for (int k = 0; k < names.length; k++) {
@@ -311,7 +311,7 @@ public final class PromisesTest {
     }
 
     private static void promise12() {
-        UnitText x = Checks.reader("w \"a'\\'\\\"\\\\\\n\\t\\0#~ \", \"\", 1, a0, \"z\"");
+        Counted x = Checks.reader("w \"a'\\'\\\"\\\\\\n\\t\\0#~ \", \"\", 1, a0, \"z\"");
         Checks.same("string 0", Checks.stringOf(x, 0), "a''\"\\\n\t\0#~ ");
         Checks.same("string 1", Checks.stringOf(x, 1), "");
         Checks.same("string 4", Checks.stringOf(x, 4), "z");
@@ -322,18 +322,17 @@ public final class PromisesTest {
             Checks.due("string 4, " + i, x.string(4, i), NONE);
         }
         // All 3000 bytes of a TEXT: three names and a STRING that fills the rest.
-        UnitText y = Checks.reader("ab:cd\nw \"" + Checks.many("q", 2989, "") + "z\"");
+        Counted y = Checks.reader("ab:cd\nw \"" + Checks.many("q", 2989, "") + "z\"");
         Checks.due("a long STRING", y.operand(0, 6), 2990);
         Checks.due("a long STRING's last byte", y.string(0, 2989), 'z');
         Checks.due("behind a long STRING", y.string(0, 2990), NONE);
         Checks.same("a name ahead of a long STRING", Checks.nameOf(y, 1), "cd");
-        Checks.same("3000 lines and one", Checks.outcome(y, Checks.many("\n", 2999, "") + "1"), "fault 5 at 3000");
-        Checks.same("a word in the last line", Checks.outcome(y, Checks.many("\n", 2999, "") + "a"), "read 1");
-        Checks.due("its line", y.statement(0, 5), 2999);
+        Checks.faultIs(Checks.many("\n", 2999, "") + "1", 5, 3000);
+        Checks.due("the last line", Checks.reader(Checks.many("\n", 2999, "") + "a").statement(0, 5), 2999);
     }
 
     private static void promise13() {
-        UnitText x = Checks.reader("loop: sixteen_letters_ a0, l\nlo: a0\n.L1:");
+        Counted x = Checks.reader("loop: sixteen_letters_ a0, l\nlo: a0\n.L1:");
         Checks.due("find loop", x.find(0x6C6F6F7000000000L, 0), 0);
         Checks.due("find loop at the end", x.find(0, 0x6C6F6F70L), 0);
         Checks.due("find loop with gaps", x.find(0x6C00000000006F00L, 0x006F000000000070L), 0);
@@ -353,9 +352,9 @@ public final class PromisesTest {
     }
 
     private static void toldIs(String text, String want) {
-        UnitText x = Checks.reader(text);
+        Counted x = Checks.reader(text);
         Checks.same("tell of <" + text + ">", Checks.told(x, x.count(0) - 1), want);
-        UnitText y = Checks.reader(want);
+        Counted y = Checks.reader(want);
         Checks.same("tell again of <" + want + ">", Checks.told(y, 0), want);
     }
 
@@ -380,7 +379,7 @@ public final class PromisesTest {
             "w %hi(b + 1), %lo(b)(x2), %pcrel_hi(1), %pcrel_lo(c)(x1)");
         toldIs("w (sp),8(sp),(1+2)(sp),1+2 (sp),-1(sp)", "w 0(x2), 8(x2), 1 + 2(x2), 1 + 2(x2), -1(x2)");
         toldIs("w " + Checks.many("1", 30, "+"), "w " + Checks.many("1", 30, " + "));
-        UnitText x = Checks.reader("a b");
+        Counted x = Checks.reader("a b");
         Checks.due("tell", x.tell(0), 3);
         for (int k : new int[] {-1, 1, LEAST, MOST}) {
             Checks.due("tell " + k, x.tell(k), NONE);
@@ -392,19 +391,19 @@ public final class PromisesTest {
     /** The largest growth there is: each sign of one byte gets two blanks. */
     private static void longestTold() {
         String most = "w " + Checks.many(Checks.many("1", 30, "+"), 33, ",") + "," + Checks.many("1", 26, "*");
-        UnitText x = Checks.reader(most);
-        Checks.same("tell of a long word", Checks.told(x, 0), most.replace("+", " + ").replace("*", " * ").replace(",", ", "));
-        String registers = "w " + Checks.many("(a7)", 599, ",");
-        UnitText y = Checks.reader(registers);
-        Checks.same("tell of many MEMORIES", Checks.told(y, 0), registers.replace("(a7)", "0(x17)").replace(",", ", "));
+        Checks.same("tell of a long word", new Readers(most).told(0),
+            most.replace("+", " + ").replace("*", " * ").replace(",", ", "));
+        String memories = "w " + Checks.many("(a7)", 599, ",");
+        Checks.same("tell of many MEMORIES", new Readers(memories).told(0),
+            memories.replace("(a7)", "0(x17)").replace(",", ", "));
         String name = "w " + Checks.many("sixteen_letters_", 176, ",");
-        Checks.same("tell of names", Checks.told(Checks.reader(name), 0), name.replace(",", ", "));
+        Checks.same("tell of names", new Readers(name).told(0), name.replace(",", ", "));
         String string = "w \"" + Checks.many("\\\\", 1498, "") + "\"";
-        Checks.same("tell of a long STRING", Checks.told(Checks.reader(string), 0), string);
+        Checks.same("tell of a long STRING", new Readers(string).told(0), string);
     }
 
     private static void promise15() {
-        UnitText x = Checks.reader("ab 1\nc:");
+        Counted x = Checks.reader("ab 1\nc:");
         Checks.due("letter: nothing told", x.letter(0), NONE);
         x.tell(0);
         Checks.due("letter 0", x.letter(0), 'a');

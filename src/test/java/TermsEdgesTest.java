@@ -20,7 +20,7 @@ public final class TermsEdgesTest {
     }
 
     private static void readsAs(String text, String... told) {
-        UnitText x = Checks.reader(text);
+        Counted x = Checks.reader(text);
         Checks.due(Checks.shown(text) + " statements", x.count(0), told.length);
         for (int k = 0; k < told.length; k++) {
             Checks.same(Checks.shown(text) + " tell " + k, Checks.told(x, k), told[k]);
@@ -39,7 +39,7 @@ public final class TermsEdgesTest {
 
     static void textOfThreeThousandBytesAndOneMore() {
         Checks.sentence("THE TEXT", "THE TEXT has at most 3000 bytes.");
-        UnitText x = new UnitText();
+        Counted x = new Counted();
         Checks.put(x, Checks.many(" ", 2998, "") + "\na");
         Checks.due("3000 bytes", x.end(0), 3000);
         x.feed(0x62626262, 0x62626262, 0x62626262, 0x62626262, 0x62626262);
@@ -55,7 +55,7 @@ public final class TermsEdgesTest {
 
     static void bytesWaitUntilEnd() {
         Checks.sentence("THE TEXT", "Bytes fed wait, twenty at a time, until end() puts so many of them behind the TEXT; read() takes it.");
-        UnitText x = new UnitText();
+        Counted x = new Counted();
         x.feed(0x61610A62, 0x620A6363, 0, 0, 0);
         Checks.due("only fed", x.end(0), 0);
         Checks.same("only fed: nothing is read", Checks.outcome(x, ""), "read 0");
@@ -73,11 +73,11 @@ public final class TermsEdgesTest {
         Checks.isRead("\n\n\n", 0);
         readsAs("a\n\nb", "a", "b");
         readsAs("a\n\nb\n", "a", "b");
-        UnitText x = Checks.reader("\na\n\n\nb\nc:\n");
+        Counted x = Checks.reader("\na\n\n\nb\nc:\n");
         Checks.due("behind an empty line", x.statement(0, 5), 1);
         Checks.due("behind two more", x.statement(1, 5), 4);
         Checks.due("the last but an empty one", x.statement(2, 5), 5);
-        UnitText y = Checks.reader(Checks.many("\n", 2999, "") + "a");
+        Counted y = Checks.reader(Checks.many("\n", 2999, "") + "a");
         Checks.due("line 2999", y.statement(0, 5), 2999);
         Checks.isRead(Checks.many("\n", 3000, ""), 0);
         Checks.faultIs("a\rb", 1, 1);
@@ -150,7 +150,7 @@ public final class TermsEdgesTest {
             boolean begins = isLetter(b) || b == '_' || b == '.';
             boolean goesOn = begins || isDigit(b) || b == '$';
             Checks.same("a name begins with " + (char) b, Checks.outcome(ofByte(b) + "_ 1").equals("read 1"), begins);
-            UnitText x = new UnitText();
+            Counted x = new Counted();
             boolean one = Checks.outcome(x, "q" + ofByte(b) + "q").equals("read 1") && x.count(1) == 0 && x.name(0, 2) == 'q';
             Checks.same("a name goes on with " + (char) b, one, goesOn);
         }
@@ -204,7 +204,7 @@ public final class TermsEdgesTest {
         Checks.sentence("WORDS", "0x and digits of base 16 (a .. f, A .. F, too)");
         for (int b = 33; b < 127; b++) {
             boolean digit = isDigit(b) || b >= 'a' && b <= 'f' || b >= 'A' && b <= 'F';
-            UnitText x = new UnitText();
+            Counted x = new Counted();
             boolean read = Checks.outcome(x, "w 0x" + ofByte(b)).equals("read 1") && x.constant(0) == Character.digit(b, 16);
             Checks.same("0x" + (char) b, read, digit);
         }
@@ -267,7 +267,7 @@ public final class TermsEdgesTest {
         Checks.sentence("WORDS", "STRINGS: \" and bytes, any number, and \".");
         Checks.due("none", Checks.reader("w \"\"").operand(0, 6), 0);
         Checks.due("one", Checks.reader("w \"a\"").operand(0, 6), 1);
-        UnitText x = Checks.reader("w\"" + Checks.many("q", 2996, "") + "z\"");
+        Counted x = Checks.reader("w\"" + Checks.many("q", 2996, "") + "z\"");
         Checks.due("as many as a TEXT can have", x.operand(0, 6), 2997);
         Checks.due("the last of them", x.string(0, 2996), 'z');
         Checks.due("behind the last", x.string(0, 2997), NONE);
@@ -336,7 +336,7 @@ public final class TermsEdgesTest {
     static void registersOfX() {
         Checks.sentence("WORDS", "REGISTERS are the NAMES x0 .. x31 (without needless 0),");
         for (int i = 0; i < 100; i++) {
-            UnitText x = Checks.reader("w x" + i);
+            Counted x = Checks.reader("w x" + i);
             Checks.due("x" + i + " sort", x.operand(0, 0), i < 32 ? 1 : 0);
             Checks.due("x" + i + " register", x.operand(0, 1), i < 32 ? i : NONE);
             Checks.due("x0" + i, Checks.reader("w x0" + i).operand(0, 0), 0);
@@ -369,7 +369,7 @@ public final class TermsEdgesTest {
         readsAs("w", "w");
         readsAs("a:", "a:");
         readsAs("a:a:1:1:a:w", "a:", "a:", "1:", "1:", "a:", "w");
-        UnitText x = Checks.reader(Checks.many("a:", 399, "") + "w 1");
+        Counted x = Checks.reader(Checks.many("a:", 399, "") + "w 1");
         Checks.due("399 labels and a word in one line", x.count(0), 400);
         Checks.due("the word's line", x.statement(399, 5), 0);
     }
@@ -389,7 +389,7 @@ public final class TermsEdgesTest {
     static void labelsOfDigits() {
         Checks.sentence("LINES", "or one digit (a NUMBER of one byte) and :;");
         for (int digit = 0; digit < 10; digit++) {
-            UnitText x = Checks.reader(digit + ":");
+            Counted x = Checks.reader(digit + ":");
             Checks.due("a digit's sort", x.statement(0, 0), 1);
             Checks.due("a digit", x.statement(0, 1), digit);
         }
@@ -445,7 +445,7 @@ public final class TermsEdgesTest {
 
     static void registersAndStrings() {
         Checks.sentence("OPERANDS", "OPERANDS: a REGISTER; a STRING;");
-        UnitText x = Checks.reader("w x0, \"\", x31, \"x31\"");
+        Counted x = Checks.reader("w x0, \"\", x31, \"x31\"");
         Checks.due("the first REGISTER", x.operand(0, 0), 1);
         Checks.due("an empty STRING", x.operand(1, 0), 3);
         Checks.due("the last REGISTER", x.operand(2, 0), 1);
@@ -468,7 +468,7 @@ public final class TermsEdgesTest {
     static void memoriesWithAndWithoutExpression() {
         Checks.sentence("OPERANDS",
             "a MEMORY: perhaps an EXPRESSION or a MARKED one, then ( a REGISTER ) (without one the EXPRESSION is the number 0);");
-        UnitText x = Checks.reader("w (a0), 5(a1), %lo(b)(a2), (1+2)(a3), -1(a4)");
+        Counted x = Checks.reader("w (a0), 5(a1), %lo(b)(a2), (1+2)(a3), -1(a4)");
         for (int j = 0; j < 5; j++) {
             Checks.due("sort " + j, x.operand(j, 0), 2);
             Checks.due("register " + j, x.operand(j, 1), 10 + j);
@@ -494,7 +494,7 @@ public final class TermsEdgesTest {
     static void markedOnes() {
         Checks.sentence("OPERANDS",
             "a MARKED one: % and one of the NAMES hi, lo, pcrel_hi, pcrel_lo (marks 1 .. 4), ( an EXPRESSION ).");
-        UnitText x = Checks.reader("w 1, %hi(1), %lo(1), %pcrel_hi(1), %pcrel_lo(1)");
+        Counted x = Checks.reader("w 1, %hi(1), %lo(1), %pcrel_hi(1), %pcrel_lo(1)");
         for (int j = 0; j < 5; j++) {
             Checks.due("mark " + j, x.operand(j, 2), j);
             Checks.due("sort " + j, x.operand(j, 0), 0);
@@ -550,7 +550,7 @@ public final class TermsEdgesTest {
     static void signsAheadBindMost() {
         Checks.sentence("EXPRESSIONS", "then - and ~ ahead of one;");
         for (String sign : new String[] {"|", "^", "&", "<<", ">>", "+", "-", "*", "/", "%"}) {
-            UnitText x = Checks.reader("w -1" + sign + "~2");
+            Counted x = Checks.reader("w -1" + sign + "~2");
             Checks.same("- and " + sign, Checks.itemsOf(x, 0).startsWith("0:1 10 0:2 11 "), true);
         }
         itemsAre("-~-1", "0:1 10 11 10");
@@ -599,7 +599,7 @@ public final class TermsEdgesTest {
         Checks.isRead("w %lo(" + open + "1" + close + ")(sp)", 1);
         Checks.faultIs("w %lo(" + open + "(1", 7, 26);
         Checks.isRead("w " + open + "1" + close + "(sp)", 1);
-        UnitText x = Checks.reader("w " + Checks.many("-", 19, "") + "1");
+        Counted x = Checks.reader("w " + Checks.many("-", 19, "") + "1");
         Checks.same("20 deep told", Checks.told(x, 0), "w " + Checks.many("-", 19, "") + "1");
         Checks.due("20 deep worked out", x.constant(0), -1);
     }
@@ -639,14 +639,14 @@ public final class TermsEdgesTest {
     static void sortsOfOperators() {
         Checks.sentence("ITEMS",
             "3 HERE, 10 - and 11 ~ ahead of one, 12 +, 13 -, 14 *, 15 /, 16 %, 17 <<, 18 >>, 19 &, 20 ^, 21 | (0 as what is told for 3 and these).");
-        UnitText x = Checks.reader("w .-1");
+        Counted x = Checks.reader("w .-1");
         Checks.due("HERE", x.item(0, 0), 3);
         Checks.due("HERE's value", x.item(0, 1), 0);
         itemsAre("-5", "0:5 10");
         itemsAre("~5", "0:5 11");
         String[] signs = {"+", "-", "*", "/", "%", "<<", ">>", "&", "^", "|"};
         for (int i = 0; i < signs.length; i++) {
-            UnitText y = Checks.reader("w 7" + signs[i] + "8");
+            Counted y = Checks.reader("w 7" + signs[i] + "8");
             Checks.due(signs[i], y.item(2, 0), 12 + i);
             Checks.due(signs[i] + " value", y.item(2, 1), 0);
         }
@@ -764,7 +764,7 @@ public final class TermsEdgesTest {
 
     static void namesNumberedAsTheyFirstCome() {
         Checks.sentence("NAMES", "NAMES of labels, words and in EXPRESSIONS are numbered from 0 on as they first come");
-        UnitText x = Checks.reader("b: a c+d*b, c\ne: b e\n1: f %hi(g)(sp), 1b");
+        Counted x = Checks.reader("b: a c+d*b, c\ne: b e\n1: f %hi(g)(sp), 1b");
         String[] names = {"b", "a", "c", "d", "e", "f", "g"};
         Checks.due("names", x.count(3), names.length);
         for (int k = 0; k < names.length; k++) {
@@ -778,9 +778,9 @@ public final class TermsEdgesTest {
 
     static void namesThatAreNotNumbered() {
         Checks.sentence("NAMES", "(those of REGISTERS as operands, of marks, and HERE are not).");
-        UnitText x = Checks.reader("w a0, (sp), 1(x1), %hi(1), %pcrel_lo(2)(t0), .");
+        Counted x = Checks.reader("w a0, (sp), 1(x1), %hi(1), %pcrel_lo(2)(t0), .");
         Checks.due("only the word", x.count(3), 1);
-        UnitText y = Checks.reader("w a0, hi, %hi(lo)\na0 a0\nhi: lo");
+        Counted y = Checks.reader("w a0, hi, %hi(lo)\na0 a0\nhi: lo");
         Checks.due("where they are words or names", y.count(3), 4);
         Checks.same("hi, in an EXPRESSION", Checks.nameOf(y, 1), "hi");
         Checks.same("lo, in an EXPRESSION", Checks.nameOf(y, 2), "lo");
@@ -894,9 +894,9 @@ public final class TermsEdgesTest {
             "w " + Checks.many("~", 19, "") + "b", "w %pcrel_lo(" + open + ".-1f" + close + ")(zero)", "w (sp)",
             "w 0xffffffff,0b,'\\'',\"\\0\\'\",1-(2-3)-4,(1|2)&3,-(1*2),~(-1)"};
         for (String text : texts) {
-            UnitText x = Checks.reader(text);
+            Counted x = Checks.reader(text);
             String told = Checks.told(x, 0);
-            UnitText y = Checks.reader(told);
+            Counted y = Checks.reader(told);
             Checks.same(told + " told again", Checks.told(y, 0), told);
             for (int what = 0; what < 4; what++) {
                 Checks.due(told + " statement " + what, y.statement(0, what), x.statement(0, what));

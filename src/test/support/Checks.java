@@ -87,7 +87,7 @@ final class Checks {
     }
 
     /** Puts a text, a byte a character, behind the TEXT. */
-    static void put(UnitText x, String text) {
+    static void put(Counted x, String text) {
         byte[] bytes = text.getBytes(StandardCharsets.ISO_8859_1);
         for (int from = 0; from < bytes.length; from += 20) {
             int n = Math.min(20, bytes.length - from);
@@ -101,7 +101,7 @@ final class Checks {
     }
 
     /** What read() does with a text: how many STATEMENTS, or the FAULT and its PLACE. */
-    static String outcome(UnitText x, String text) {
+    static String outcome(Counted x, String text) {
         put(x, text);
         try {
             int n = x.read();
@@ -112,17 +112,17 @@ final class Checks {
     }
 
     static String outcome(String text) {
-        return outcome(new UnitText(), text);
+        return outcome(new Counted(), text);
     }
 
     /** A new object that has read a text. */
-    static UnitText reader(String text) {
-        UnitText x = new UnitText();
+    static Counted reader(String text) {
+        Counted x = new Counted();
         same("read of " + shown(text), outcome(x, text).startsWith("read "), true);
         return x;
     }
 
-    static String told(UnitText x, int k) {
+    static String told(Counted x, int k) {
         int n = x.tell(k);
         if (n < 0) {
             return "none";
@@ -135,24 +135,24 @@ final class Checks {
         return b.toString();
     }
 
-    static String nameOf(UnitText x, int k) {
+    static String nameOf(Counted x, int k) {
         StringBuilder b = new StringBuilder();
-        for (int i = 0; x.name(k, i) != -1; i++) {
-            b.append((char) x.name(k, i));
+        for (int c = x.name(k, 0); c != -1; c = x.name(k, b.length())) {
+            b.append((char) c);
         }
         return b.toString();
     }
 
-    static String stringOf(UnitText x, int j) {
+    static String stringOf(Counted x, int j) {
         StringBuilder b = new StringBuilder();
-        for (int i = 0; x.string(j, i) != -1; i++) {
-            b.append((char) x.string(j, i));
+        for (int c = x.string(j, 0); c != -1; c = x.string(j, b.length())) {
+            b.append((char) c);
         }
         return b.toString();
     }
 
     /** An operand's ITEMS, each as sort or sort:value. */
-    static String itemsOf(UnitText x, int j) {
+    static String itemsOf(Counted x, int j) {
         StringBuilder b = new StringBuilder();
         int first = x.operand(j, 3);
         for (int t = first; t < first + x.operand(j, 4); t++) {
