@@ -38,6 +38,10 @@ public final class FaceTest {
             }
         }
         Checks.same("the constants", fields, new TreeSet<>(Arrays.asList("NONE int", "NOTHING long")));
+        for (Method m : face.getDeclaredMethods()) {
+            String thrown = m.getName().equals("read") ? "[" + IllegalArgumentException.class + "]" : "[]";
+            Checks.same(m.getName() + " says that it throws", Arrays.toString(m.getExceptionTypes()), thrown);
+        }
         for (Constructor<?> c : face.getDeclaredConstructors()) {
             Checks.same("the constructor", c.toString(), "public UnitText()");
         }

@@ -710,4 +710,41 @@ public final class PromisesEdgesTest {
             Checks.due("behind a shorter one: " + i, x.letter(i), NONE);
         }
     }
+
+    // What stands behind the promises
+
+    static void askingChangesNothing() {
+        Checks.sentence("Not promised", "Nothing is promised beyond the answers and state changes described above,");
+        Counted x = Checks.reader(ALL_SORTS);
+        Checks.same("a FAULT", Checks.outcome(x, "w ,"), "fault 5 at 2");
+        Checks.put(x, "q 1\n");
+        x.feed(0x76203261, 0, 0, 0, 0);
+        x.tell(2);
+        String want = allOf(x);
+        int out = x.tell(3);
+        for (int i = -1; i < 3; i++) {
+            x.fault(i);
+            x.count(i);
+            x.statement(i, i);
+            x.operand(i, i);
+            x.constant(i);
+            x.item(i, i);
+            x.name(i, i);
+            x.string(i, i);
+            x.find(i, 'w');
+            x.letter(i);
+            x.tell(-1);
+            x.end(-1);
+        }
+        Checks.due("OUT's bytes", out, 1);
+        Checks.due("OUT", x.letter(0), 'v');
+        Checks.due("OUT has no more", x.letter(1), NONE);
+        Checks.due("the FAULT", x.fault(0), 5);
+        Checks.due("its place", x.fault(1), 2);
+        Checks.same("what was read", allOf(x), want);
+        Checks.due("the TEXT and what waits behind it", x.end(3), 7);
+        Checks.same("both are read", Checks.outcome(x, ""), "read 2");
+        Checks.same("the TEXT", Checks.told(x, 0), "q 1");
+        Checks.same("what waited", Checks.told(x, 1), "v 2");
+    }
 }
